@@ -624,13 +624,14 @@ public final class DecimalDesk {
             }
         }
 
+        /** Powers of 10 go from -45 to 38 alone: two digits at most. */
         void addPower(int power) {
             add('e');
             if (power < 0) {
                 add('-');
             }
             int size = Math.abs(power);
-            int count = size >= 100 ? 3 : size >= 10 ? 2 : 1;
+            int count = size >= 10 ? 2 : 1;
             addDigits(size, count, count);
         }
 
@@ -659,7 +660,7 @@ public final class DecimalDesk {
                 reversed[count] = '0';
                 count++;
             }
-            while (count > behind + 1 && count <= ROOM && reversed[count - 1] == '0') {
+            while (count > 1 && count > behind + 1 && count <= ROOM && reversed[count - 1] == '0') {
                 count--;
             }
             addReversed(count, behind);
