@@ -52,11 +52,9 @@ public final class ExactTest {
                 Model model = new Model();
                 model.e = e;
                 model.m = m;
-                DecimalDesk desk = new DecimalDesk();
-                desk.format(e, m);
                 for (long pattern = 0; pattern < 2 * model.signBit(); pattern++) {
                     check.due("format(" + e + ", " + m + "), exact(" + pattern + ")",
-                            Check.exact(desk, pattern), model.exact(pattern));
+                            Check.exact(Check.desk(e, m), pattern), model.exact(pattern));
                 }
             }
         }
@@ -69,13 +67,11 @@ public final class ExactTest {
                 Model model = new Model();
                 model.e = e;
                 model.m = m;
-                DecimalDesk desk = new DecimalDesk();
-                desk.format(e, m);
                 for (int i = 0; i < 40; i++) {
                     long pattern = Math.floorMod(random.nextLong(), 2 * model.signBit());
                     long size = i % 2 == 0 ? pattern : pattern % (1L << m);
                     check.due("format(" + e + ", " + m + "), exact(" + size + ")",
-                            Check.exact(desk, size), model.exact(size));
+                            Check.exact(Check.desk(e, m), size), model.exact(size));
                 }
             }
         }

@@ -1,13 +1,17 @@
 import java.util.Random;
 
-/** Runs of 512 calls of every kind, ordinary and wrong ones, each answer held against the model. */
+/** Runs of up to 512 calls of every kind, ordinary and wrong ones, each answer held against the model. */
 public final class ModelRunsTest {
+    private static final int MOST_CALLS = 512;
+    // What one step may take: an exact() and all its letters, and one beyond.
+    private static final int DEAREST_STEP = 160;
     private static final String ALPHABET = "0123456789012345678901234567890123456789...eee-+x ~";
     private final Random random;
     private final DecimalDesk desk = new DecimalDesk();
     private final Model model = new Model();
     private final String name;
     private boolean ok = true;
+    private int calls = 0;
 
     private ModelRunsTest(int seed) {
         random = new Random(seed);
@@ -15,10 +19,10 @@ public final class ModelRunsTest {
     }
 
     public static void main(String[] args) {
-        for (int seed = 1; seed <= 400; seed++) {
+        for (int seed = 1; seed <= 2000; seed++) {
             ModelRunsTest run = new ModelRunsTest(seed);
-            for (int i = 0; i < 512 && run.ok; i++) {
-                run.call();
+            while (run.ok && run.calls + DEAREST_STEP <= MOST_CALLS) {
+                run.step();
             }
             if (!run.ok) {
                 System.exit(1);
@@ -27,14 +31,16 @@ public final class ModelRunsTest {
         System.out.println("ModelRunsTest: all runs as due");
     }
 
+    /** The answer of one call; those that hear a whole text count its letters besides. */
     private void due(String call, Object got, Object want) {
+        calls++;
         if (!want.equals(got)) {
             ok = false;
             System.out.println("ModelRunsTest: " + name + call + " answered " + got + ", due is " + want);
         }
     }
 
-    private void call() {
+    private void step() {
         switch (random.nextInt(12)) {
             case 0: format(); break;
             case 1: mode(); break;
@@ -157,6 +163,7 @@ public final class ModelRunsTest {
         }
         due((all ? "exact(" : "shortest(") + pattern + ") of " + model.e + ", " + model.m,
                 all ? Check.exact(desk, pattern) : Check.shortest(desk, pattern), want);
+        calls += model.holds(pattern) ? want.length() + 1 : 0;
     }
 
     private void letter() {

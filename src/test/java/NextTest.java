@@ -29,9 +29,8 @@ public final class NextTest {
                 Model model = new Model();
                 model.e = e;
                 model.m = m;
-                DecimalDesk desk = new DecimalDesk();
-                desk.format(e, m);
                 for (long pattern = -2; pattern < 2 * model.signBit() + 2; pattern++) {
+                    DecimalDesk desk = Check.desk(e, m);
                     String call = "format(" + e + ", " + m + "), next(" + pattern;
                     check.due(call + ", true)", desk.next(pattern, true), model.next(pattern, true));
                     check.due(call + ", false)", desk.next(pattern, false), model.next(pattern, false));

@@ -61,9 +61,8 @@ public final class ShortestTest {
             BigDecimal[] bestValue = new BigDecimal[best.length];
             int[] bestCount = new int[best.length];
             tryDecimals(model, best, bestValue, bestCount);
-            DecimalDesk desk = new DecimalDesk();
-            desk.format(model.e, model.m);
             for (int size = 1; size < best.length; size++) {
+                DecimalDesk desk = Check.desk(model.e, model.m);
                 String call = "format(" + model.e + ", " + model.m + "), shortest ";
                 check.due(call + size, Check.shortest(desk, size), "" + best[size]);
                 check.due(call + "-" + size, Check.shortest(desk, model.signBit() + size), "-" + best[size]);
@@ -100,8 +99,8 @@ public final class ShortestTest {
     /** There the neighbour below is nearer than the one above. */
     private static void powersOfTwo(Check check) {
         Model model = new Model();
-        DecimalDesk desk = new DecimalDesk();
         for (long e = 0; e <= 255; e++) {
+            DecimalDesk desk = new DecimalDesk();
             for (int m = -1; m <= 1; m++) {
                 long pattern = Math.max((e << 23) + m, 0);
                 check.due("shortest(" + pattern + ")", Check.shortest(desk, pattern), model.shortest(pattern));
@@ -112,12 +111,9 @@ public final class ShortestTest {
     private static void floats(Check check) {
         Model model = new Model();
         Random random = new Random(8);
-        DecimalDesk desk = new DecimalDesk();
         for (int i = 0; i < 4000; i++) {
             long pattern = random.nextInt() & 0xFFFFFFFFL;
-            if (i % 500 == 0) {
-                desk = new DecimalDesk();
-            }
+            DecimalDesk desk = new DecimalDesk();
             String text = Check.shortest(desk, pattern);
             check.due("shortest(" + pattern + ")", text, model.shortest(pattern));
             if (model.isDecimal(text)) {
@@ -133,13 +129,11 @@ public final class ShortestTest {
                 Model model = new Model();
                 model.e = e;
                 model.m = m;
-                DecimalDesk desk = new DecimalDesk();
-                desk.format(e, m);
                 for (int i = 0; i < 40; i++) {
                     long pattern = Math.floorMod(random.nextLong(), 2 * model.signBit());
                     long edge = i % 2 == 0 ? pattern >> m << m : pattern;
                     check.due("format(" + e + ", " + m + "), shortest(" + edge + ")",
-                            Check.shortest(desk, edge), model.shortest(edge));
+                            Check.shortest(Check.desk(e, m), edge), model.shortest(edge));
                 }
             }
         }
