@@ -1,4 +1,4 @@
-/** What README.md says of the calls: its example, row by row, and what its table names. */
+/** What README.md says of the calls: its example, row by row, the texts that it names, and one refusal of each. */
 public final class ReadmeTest {
     public static void main(String[] args) {
         Check check = new Check("ReadmeTest");

@@ -2,8 +2,8 @@ import java.util.HashSet;
 import java.util.Set;
 
 /**
- * The Term DECIMAL the other way round: all that it lets one write in up to 6 letters is written, and
- * of all texts of up to 6 such letters just those are read.
+ * The Term DECIMAL the other way round: all that it lets one write in up to 6 of the LETTERS is written,
+ * and of all texts of up to 6 of them just those are read. (0 and 5 stand for all digits.)
  */
 public final class WholeDecimalTest {
     private static final int LONGEST = 6;
